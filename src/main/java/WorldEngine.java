@@ -811,7 +811,7 @@ public final class WorldEngine {
         // All that a text may declare, and the LOCALS that may be visible.
         static final int MOST_KNOWN = 3 * MOST + MOST_EVENTS + 12;
         // A text of 6000 bytes makes less than two ints of code for each byte.
-        static final int MOST_CODE = 16000;
+        static final int MOST_CODE = 12000;
 
         final Named[] known;
         int knownCount;
@@ -1473,21 +1473,21 @@ public final class WorldEngine {
             int[] offsets = new int[4];
             int told = 0;
             if (lexer.token == Lexer.LEFT) {
-                deepen();
-                for (int turn = 0; turn <= 4; turn++) {
-                    lexer.advance();
+                openParens();
+                boolean more = true;
+                for (int turn = 0; turn <= 4 && more; turn++) {
                     int offset = givenMember(spawnedPart(prefab, told));
                     want(kindAt(offset));
                     if (told < 4) {
                         offsets[told] = offset;
                         told++;
                     }
-                    if (lexer.token != Lexer.COMMA) {
-                        break;
+                    more = lexer.token == Lexer.COMMA;
+                    if (more) {
+                        lexer.advance();
                     }
                 }
-                lexer.take(Lexer.RIGHT);
-                depth--;
+                closeParens();
             }
             lexer.take(Lexer.SEMICOLON);
             program.add(Row.SPAWN);
@@ -1639,16 +1639,13 @@ public final class WorldEngine {
 
         /** Signs of one level and what binds tighter: 0 for ||, up to 4 for * / %. */
         private int signsFrom(int level) {
-            if (level > 4) {
-                return unary();
-            }
-            int kind = signsFrom(level + 1);
+            int kind = level < 4 ? signsFrom(level + 1) : unary();
             for (int turn = 0; turn <= Lexer.ROOM && levelOf(lexer.token) == level; turn++) {
                 int sign = lexer.token;
                 int place = lexer.place;
                 lexer.advance();
                 int past = level > 1 ? -1 : jump(level == 0 ? Row.OR_ELSE : Row.AND_ALSO);
-                int right = signsFrom(level + 1);
+                int right = level < 4 ? signsFrom(level + 1) : unary();
                 kind = joined(sign, place, kind, right);
                 program.aim(past);
                 if (level == 2) {

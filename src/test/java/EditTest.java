@@ -9,6 +9,8 @@ final class EditTest {
         changes();
         sets();
         quiet();
+        newWorld();
+        newCounts();
         Check.close("EditTest");
     }
 
@@ -121,5 +123,43 @@ final class EditTest {
         Check.due("run again with what was made", x.input(0, 2, 1), 1);
         Check.due("entities", x.look(4), 2);
         Check.due("member", x.get(0, 0, 0), 8);
+    }
+
+    /** A text's world has nothing of the one before. */
+    private static void newWorld() {
+        WorldEngine x = Check.world("component C { ref r; byte b; } prefab P { C(b = -200); }", 0, 0);
+        Check.due("make", x.make(0), 0);
+        Check.due("a ref is none at first", x.get(0, 0, 0), -1);
+        Check.due("a byte is held", x.get(0, 0, 1), -128);
+        x.set(0, 0, 0, 9);
+        x.change(0, 0, 0);
+        Check.feed(x, "component D { ref q; } prefab P { D; }");
+        Check.due("text", x.text(0), 0);
+        Check.due("none is there", x.look(4), 0);
+        Check.due("generations are new", x.make(0), 0);
+        Check.due("a ref is none at first", x.get(0, 0, 0), -1);
+    }
+
+    private static void newCounts() {
+        String text = "component C { int i; } event E(); prefab P { C; } system S each C { show (1); drop (none); "
+            + "emit E() to (self) in (5); } system T each C { fail; }";
+        WorldEngine x = new WorldEngine(1);
+        for (int turn = 0; turn < 5; turn++) {
+            Check.feed(x, text);
+            Check.due("text", x.text(0), 2);
+            for (int what = 2; what <= 8; what++) {
+                Check.due("look " + what, x.look(what), 0);
+            }
+            Check.missing("nothing told", () -> x.shown(0));
+            Check.due("no failure", x.failure(2), -1);
+            Check.due("one prefab", x.make(1), -1);
+            Check.due("components", x.look(1), 1);
+            Check.due("make", x.make(0), 0);
+            Check.tick(x);
+            int[] want = {1, 1, 1, 1, 1, 1, 1};
+            for (int what = 2; what <= 8; what++) {
+                Check.due("look " + what, x.look(what), want[what - 2]);
+            }
+        }
     }
 }

@@ -289,7 +289,7 @@ final class FaultTest {
         badBody(5, "emit Nil() to (@1) in (1);");
         badBody(5, "emit Nil() to (self) in (@1.0);");
         String[] signs = {"1 @+ 1.0", "1.0 @- 1", "true @* true", "self @/ self", "1.0 @% 1.0", "true @< false",
-            "self @>= none", "1 @<= 1.0", "1 @== 1.0", "self @!= 1", "1 @&& true", "true @|| 1", "@-true", "@!1", "@-self",
+            "self @>= none", "1 @<= 1.0", "1 @== 1.0", "self @!= 1", "1 @&& true", "true @|| 1", "1 @&& 1", "self @|| none", "1.0 @&& 1.0", "@-true", "@!1", "@-self",
             "@!none", "draw(@1.0)", "input(@true)", "alive(@1)", "root(@1)", "int(@1)", "fix(@1.0)", "has(@1, At)",
             "1 + 2 * 3 @+ 1.0", "1 @+ 2.0 * 3.0", "(1 @+ true)", "1 < 2 @&& 1"};
         for (String one : signs) {

@@ -6,6 +6,7 @@ final class LimitTest {
         parts();
         locals();
         nesting();
+        behindFault();
         Check.close("LimitTest");
     }
 
@@ -122,5 +123,18 @@ final class LimitTest {
         bad(2, deep + "hear E @{ }");
         bad(1, deep + "hear E @;");
         good(1, head + times(3, "show (" + times(19, "(") + "1" + times(19, ")") + "); ") + "}");
+    }
+
+    /** A fault deep within a text leaves nothing behind for the next one. */
+    private static void behindFault() {
+        WorldEngine x = new WorldEngine(1);
+        String head = "component C { int i; } event E(int p); system S each C { ";
+        Check.feed(x, head + "let a = 1; " + times(15, "hear E { ") + "let b = ((?");
+        Check.due("a fault deep within", x.text(0), -1);
+        Check.feed(x, head + times(20, "if true { ") + times(20, "} ")
+            + many(1, 12, "let a$ = 1; ") + "}");
+        Check.due("as deep as may be", x.text(0), 1);
+        Check.feed(x, head + "show (E.p); }");
+        Check.due("no hear is open", x.text(0), -5);
     }
 }

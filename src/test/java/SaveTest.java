@@ -145,6 +145,37 @@ final class SaveTest {
         Check.due("text", none.text(0), 0);
         Check.due("an empty world", none.load(), 0);
         lastGuessIsForgotten();
+        loadedWhole();
+    }
+
+    /** A BYTE of -2 among the bytes becomes another value. */
+    private static void byteEdge(int value, int want) {
+        WorldEngine x = world();
+        x.save();
+        for (int i = 0; i < 4; i++) {
+            x.bend(FIRST + 6 + i, x.byteOut(FIRST + 6 + i) ^ value >>> 24 - 8 * i);
+        }
+        Check.due("a byte of " + value, x.load(), want);
+    }
+
+    /** Nothing of the world that was, or of those before it, is left in a loaded one. */
+    private static void loadedWhole() {
+        WorldEngine x = Check.world(TEXT, 3, 1);
+        x.save();
+        x.bend(TICK + 7, 3 ^ 9);
+        for (int i = 0; i < 20; i++) {
+            x.make(i & 1);
+            Check.tick(x);
+        }
+        Check.due("load", x.load(), 0);
+        Check.due("entities", x.look(4), 0);
+        Check.due("pending", x.look(5), 0);
+        Check.due("fails", x.look(6), 0);
+        Check.due("passed", x.look(7), 0);
+        x.save();
+        Check.due("the seed", x.byteOut(TICK + 7), 9);
+        Check.due("sum", x.sum(), summed(x));
+        Check.due("generations", x.make(0), 0);
     }
 
     private static void lastGuessIsForgotten() {
@@ -193,6 +224,10 @@ final class SaveTest {
         wrong(x, FIRST + 6, 1, -1 - (FIRST + 6));
         wrong(x, FIRST + 9, 128, -1 - (FIRST + 6));
         wrong(x, FIRST + 9, 127, 0);
+        wrong(x, FIRST + 9, 0xfe ^ 0x80, 0);
+        byteEdge(127, 0);
+        byteEdge(128, -1 - (FIRST + 6));
+        wrong(x, FIRST + 9, 0xfe ^ 0x7f, -1 - (FIRST + 6));
         wrong(x, FIRST + 10, 128, 0);
         wrong(x, FIRST + 17, 1, 0);
         wrong(x, FIRST + 17, 2, -1 - (FIRST + 14));

@@ -136,6 +136,10 @@ final class ValueTest {
         show("2 <= 2", 1);
         show("2 > 2", 0);
         show("2 >= 3", 0);
+        show("2 >= 2", 1);
+        show("3 > 2", 1);
+        show("3 <= 2", 0);
+        show("2 < 2", 0);
         show("2 == 2", 1);
         show("2 != 2", 0);
         show("true == false", 0);
@@ -150,7 +154,23 @@ final class ValueTest {
         fails("false || 1 / 0 == 1", 1);
         fails("true && 1 / 0 == 1", 1);
         show("!(1 == 2) && !false", 1);
+        decidedEarly();
         show("-1 < 0 || true", 1);
+    }
+
+    /** What && and || leave out leaves the values beside it as they are. */
+    private static void decidedEarly() {
+        WorldEngine x = Check.world(HEAD + "event E(int a, bool b, bool c, int d); system S each C "
+            + "{ emit E(5, true || false, false && true, 6) to (self) in (1 + 1); spawn P(C.i = 7, C.t = true || C.t, C.b = 8); }", 0, 1);
+        x.make(0);
+        Check.tick(x);
+        int[] want = {0, 3, 0, 5, 1, 0, 6};
+        for (int what = 0; what < want.length; what++) {
+            Check.due("pending " + what, x.pending(0, what), want[what]);
+        }
+        Check.due("int", x.get(1, 0, 0), 7);
+        Check.due("bool", x.get(1, 0, 3), 1);
+        Check.due("byte", x.get(1, 0, 1), 8);
     }
 
     private static void refs() {

@@ -5,6 +5,7 @@ final class CommandTest {
 
     public static void main(String[] args) {
         spawns();
+        spawnsLast();
         drops();
         gives();
         puts();
@@ -13,6 +14,7 @@ final class CommandTest {
         loops();
         near();
         own();
+        branches();
         order();
         Check.close("CommandTest");
     }
@@ -45,6 +47,28 @@ final class CommandTest {
         Check.due("the last one", x.entity(255), 255);
     }
 
+    private static void spawnsLast() {
+        WorldEngine x = world("system S each M { spawn P; } system T each C { show (5); }", 2, 2);
+        Check.tick(x);
+        Check.due("the row ends behind its last statement", x.look(8), 0);
+        Check.tick(x);
+        Check.due("the new one's row", x.look(8), 1);
+    }
+
+    private static void branches() {
+        for (int n = 0; n < 4; n++) {
+            WorldEngine x = world("system Z each D { show (100); } system S each C { if C.i < 2 { show (1); if C.i == 0 { show (2); } else { show (3); } } "
+                + "else { if C.i == 2 { show (4); } show (5); } show (6); }", 2, 0);
+            x.set(0, 0, 0, n);
+            Check.tick(x);
+            int[][] want = {{6, 2, 1}, {6, 3, 1}, {6, 5, 4}, {6, 5}};
+            Check.due("branches of " + n, x.look(8), want[n].length);
+            for (int k = 0; k < want[n].length; k++) {
+                Check.due("branch " + k + " of " + n, x.shown(k), want[n][k]);
+            }
+        }
+    }
+
     private static void drops() {
         WorldEngine x = world("system S each C { drop (C.r); drop (C.r); spawn P; }", 1, 0, 2);
         x.set(0, 0, 1, 1);
@@ -75,6 +99,10 @@ final class CommandTest {
         Check.tick(x);
         Check.due("given again, put again", x.get(0, 1, 0), 4);
         Check.due("row", x.row(0, 0), -1);
+        x.set(0, 1, 0, 31);
+        x.change(2, 0, 0);
+        x.change(1, 0, 0);
+        Check.due("what another component has stays", x.get(0, 1, 0), 31);
     }
 
     private static void puts() {

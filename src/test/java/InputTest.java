@@ -14,6 +14,7 @@ final class InputTest {
         seatsLate();
         told();
         lateIsAsEarly();
+        longAfter();
         Check.close("InputTest");
     }
 
@@ -153,10 +154,12 @@ final class InputTest {
         x.seat(1, true);
         Check.due("none of that tick's still", x.input(1, 2, 2), -3);
         Check.due("early", x.input(1, 4, 9), 0);
+        Check.due("earliest", x.input(1, 18, 9), 0);
         x.seat(1, false);
         Check.due("not on", x.input(1, 4, 9), -3);
         x.seat(1, true);
         Check.due("what came is forgotten", x.input(1, 4, 8), 0);
+        Check.due("what came is forgotten", x.input(1, 18, 8), 0);
         x.step();
         Check.due("what came before counts on", x.get(0, 0, 0), ((20 + 1) * 3 + 2) * 3 + 20 + 3);
         x.step();
@@ -245,5 +248,23 @@ final class InputTest {
                 x.input(p, t, bits[p][t]);
             }
         }
+    }
+
+    /** What came for a tick is not taken for that of a much later one. */
+    private static void longAfter() {
+        WorldEngine x = world();
+        for (int t = 1; t <= 150; t++) {
+            Check.due("input " + t, x.input(0, t, t & 1), 0);
+            Check.due("step", x.step(), t);
+            Check.due("confirmed", x.look(3), t);
+        }
+        for (int t = 151; t <= 166; t++) {
+            Check.due("step", x.step(), t);
+        }
+        Check.due("not confirmed", x.look(3), 150);
+        for (int t = 151; t <= 166; t++) {
+            Check.due("as guessed", x.input(0, t, 0), 0);
+        }
+        Check.due("confirmed", x.look(3), 166);
     }
 }

@@ -219,6 +219,7 @@ final class SaveTest {
         wrong(x, PLACES + 4, 255, -1 - (PLACES + 4));
         wrong(x, FIRST, 1, -1 - FIRST);
         wrong(x, FIRST + 1, 8, -1 - FIRST);
+        wrong(x, FIRST + 1, 9, -1 - FIRST);
         wrong(x, FIRST + 1, 128, -1 - FIRST);
         wrong(x, FIRST + 2, 255, 0);
         wrong(x, FIRST + 6, 1, -1 - (FIRST + 6));

@@ -6,6 +6,7 @@ final class SwapTest {
     public static void main(String[] args) {
         kinds();
         names();
+        wider();
         events();
         rest();
         fromNothing();
@@ -69,6 +70,32 @@ final class SwapTest {
         swap(x, "component D { int d; } prefab P { D; }", 0);
         Check.no("what was gone does not come back", x.has(1, 0));
         Check.due("generations stay", x.make(0), 256 + 3);
+    }
+
+    /** More and fewer members for several entities. */
+    private static void wider() {
+        WorldEngine x = Check.world("component A { int a; } prefab P { A; }", 0, 0);
+        for (int e = 0; e < 4; e++) {
+            x.make(0);
+            x.set(e, 0, 0, 10 + e);
+        }
+        swap(x, "component B { int b; } component A { int p; int a; int q; ref r; } prefab P { A(p = 1, a = 2, q = 3); }", 0);
+        Check.due("make", x.make(0), 4);
+        for (int e = 0; e < 5; e++) {
+            int[] want = e < 4 ? new int[] {0, 10 + e, 0, -1} : new int[] {1, 2, 3, -1};
+            for (int m = 0; m < 4; m++) {
+                Check.due("wider " + e + " " + m, x.get(e, 1, m), want[m]);
+            }
+            x.set(e, 1, 0, 20 + e);
+            x.set(e, 1, 3, 30 + e);
+        }
+        x.save();
+        Check.due("load", x.load(), 0);
+        swap(x, "component A { ref r; int p; }", 0);
+        for (int e = 0; e < 5; e++) {
+            Check.due("narrower", x.get(e, 0, 0), 30 + e);
+            Check.due("narrower", x.get(e, 0, 1), 20 + e);
+        }
     }
 
     private static void events() {

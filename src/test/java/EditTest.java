@@ -154,6 +154,8 @@ final class EditTest {
             Check.due("no failure", x.failure(2), -1);
             Check.due("one prefab", x.make(1), -1);
             Check.due("components", x.look(1), 1);
+            Check.due("groups", x.look(10), 1);
+            Check.due("group", x.group(1), 0);
             Check.due("make", x.make(0), 0);
             Check.tick(x);
             int[] want = {1, 1, 1, 1, 1, 1, 1};

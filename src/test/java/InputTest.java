@@ -237,15 +237,24 @@ final class InputTest {
         }
     }
 
+    /** Each input comes up to 3 ticks early or up to 12 late. */
     private static void comeLate(WorldEngine x, int[][] bits, Random r) {
-        for (int turn = 0; turn < 100000 && x.look(3) < 24; turn++) {
-            if (x.look(2) < 24 && r.nextInt(3) == 0) {
-                x.step();
+        int[][] when = new int[3][25];
+        for (int[] row : when) {
+            for (int t = 1; t <= 24; t++) {
+                row[t] = Math.max(0, t - 3 + r.nextInt(16));
             }
-            int t = x.look(3) + 1 + r.nextInt(6);
-            int p = r.nextInt(3);
-            if (t <= 24) {
-                x.input(p, t, bits[p][t]);
+        }
+        for (int now = 0; now <= 40; now++) {
+            if (now > 0 && now <= 24) {
+                Check.due("step", x.step(), now);
+            }
+            for (int i = 0; i < 72; i++) {
+                int p = i / 24;
+                int t = 1 + i * 17 % 24;
+                if (when[p][t] == now) {
+                    Check.yes("it comes", x.input(p, t, bits[p][t]) >= 0);
+                }
             }
         }
     }
@@ -253,18 +262,18 @@ final class InputTest {
     /** What came for a tick is not taken for that of a much later one. */
     private static void longAfter() {
         WorldEngine x = world();
-        for (int t = 1; t <= 150; t++) {
+        for (int t = 1; t <= 80; t++) {
             Check.due("input " + t, x.input(0, t, t & 1), 0);
             Check.due("step", x.step(), t);
             Check.due("confirmed", x.look(3), t);
         }
-        for (int t = 151; t <= 166; t++) {
+        for (int t = 81; t <= 96; t++) {
             Check.due("step", x.step(), t);
         }
-        Check.due("not confirmed", x.look(3), 150);
-        for (int t = 151; t <= 166; t++) {
+        Check.due("not confirmed", x.look(3), 80);
+        for (int t = 81; t <= 96; t++) {
             Check.due("as guessed", x.input(0, t, 0), 0);
         }
-        Check.due("confirmed", x.look(3), 166);
+        Check.due("confirmed", x.look(3), 96);
     }
 }

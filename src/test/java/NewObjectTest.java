@@ -39,7 +39,7 @@ final class NewObjectTest {
         Check.missing("get", () -> x.get(0, 0, 0));
         Check.missing("shown", () -> x.shown(0));
         Check.due("save", x.save(), 2 + 2 + 16 + 256 * 5 + 2);
-        for (int k = 0; k < 1302; k++) {
+        for (int k = 0; k < 1302; k += k < 40 ? 1 : 7) {
             Check.due("byte " + k, x.byteOut(k), k == 0 ? 87 : k == 1 ? 69 : 0);
         }
         Check.due("input without a text", x.input(0, 1, 5), 0);

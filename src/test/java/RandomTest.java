@@ -16,7 +16,7 @@ final class RandomTest {
         + "if draw(9) == 1 { drop (B.b); take (B.b) A; } if draw(5) == 2 { give (B.b) A; put (B.b) B.d = true; } let z = 100 / (draw(20)); }";
 
     public static void main(String[] args) {
-        for (int seed = 0; seed < 150; seed++) {
+        for (int seed = 0; seed < 600; seed++) {
             run(new Random(seed), seed);
         }
         Check.close("RandomTest");
@@ -39,7 +39,7 @@ final class RandomTest {
                 x.make(r.nextInt(3));
             }
         }
-        for (int i = 0; i < 400; i++) {
+        for (int i = 0; i < 90; i++) {
             int which = r.nextInt(34);
             try {
                 call(x, which, r);

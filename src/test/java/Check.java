@@ -14,6 +14,10 @@ final class Check {
     private Check() {
     }
 
+    static int wrong() {
+        return wrong;
+    }
+
     static void due(String what, long got, long want) {
         looked++;
         if (got != want) {
@@ -66,6 +70,24 @@ final class Check {
         feed(x, text);
         due("text of " + text, x.text(seed), systems);
         return x;
+    }
+
+    /** A text with a fault; @ marks its place. */
+    static void bad(int kind, String marked) {
+        int place = marked.indexOf('@');
+        WorldEngine x = new WorldEngine(1);
+        feed(x, marked.substring(0, place) + marked.substring(place + 1));
+        due(marked, x.text(0), -kind);
+        due(marked + " kind", x.fault(1), kind);
+        due(marked + " place", x.fault(0), place);
+        due(marked + " systems", x.look(0), 0);
+    }
+
+    /** A text without a fault. */
+    static void good(int systems, String text) {
+        WorldEngine x = world(text, 0, systems);
+        due(text + " fault", x.fault(0), -1);
+        due(text + " kind", x.fault(1), -1);
     }
 
     /** A step whose inputs of player 0 are known, so that the world stays quiet. */

@@ -19,52 +19,34 @@ final class FaultTest {
         Check.close("FaultTest");
     }
 
-    private static void bad(int kind, String marked) {
-        int place = marked.indexOf('@');
-        WorldEngine x = new WorldEngine(1);
-        Check.feed(x, marked.substring(0, place) + marked.substring(place + 1));
-        Check.due(marked, x.text(0), -kind);
-        Check.due(marked + " kind", x.fault(1), kind);
-        Check.due(marked + " place", x.fault(0), place);
-        Check.due(marked + " systems", x.look(0), 0);
-    }
-
-    private static void good(int systems, String text) {
-        WorldEngine x = new WorldEngine(1);
-        Check.feed(x, text);
-        Check.due(text, x.text(0), systems);
-        Check.due(text + " fault", x.fault(0), -1);
-        Check.due(text + " kind", x.fault(1), -1);
-    }
-
     private static void badHead(int kind, String marked) {
-        bad(kind, HEAD + marked);
+        Check.bad(kind, HEAD + marked);
     }
 
     private static void badBody(int kind, String marked) {
-        bad(kind, HEAD + "system S each At, Go, Life writes Go, Life reads At { " + marked + " }");
+        Check.bad(kind, HEAD + "system S each At, Go, Life writes Go, Life reads At { " + marked + " }");
     }
 
     private static void goodBody(String body) {
-        good(2, HEAD + "system S each At, Go, Life writes Go, Life reads At { " + body + " }");
+        Check.good(2, HEAD + "system S each At, Go, Life writes Go, Life reads At { " + body + " }");
     }
 
     private static void tokens() {
-        good(0, "");
-        good(0, " \t\r\n # all of this ? is a remark");
-        good(0, "# one\n# two\ncomponent A{}#three");
-        bad(1, "@?");
-        bad(1, "component A { } @\u0000");
-        bad(1, "component A { } @\u00e4");
-        bad(1, "component A { } @_");
-        bad(1, "component@");
-        bad(1, "component A { @");
-        bad(1, "component A { } # } \n @}");
-        bad(1, "@A");
-        bad(1, "@12");
-        bad(1, "@averyverylongname");
-        bad(1, "component @12345678901");
-        bad(1, "component @tick { }");
+        Check.good(0, "");
+        Check.good(0, " \t\r\n # all of this ? is a remark");
+        Check.good(0, "# one\n# two\ncomponent A{}#three");
+        Check.bad(1, "@?");
+        Check.bad(1, "component A { } @\u0000");
+        Check.bad(1, "component A { } @\u00e4");
+        Check.bad(1, "component A { } @_");
+        Check.bad(1, "component@");
+        Check.bad(1, "component A { @");
+        Check.bad(1, "component A { } # } \n @}");
+        Check.bad(1, "@A");
+        Check.bad(1, "@12");
+        Check.bad(1, "@averyverylongname");
+        Check.bad(1, "component @12345678901");
+        Check.bad(1, "component @tick { }");
         goodBody("let a = 1<2; let b=1<=2&&2>=1||!(1!=2); let c = 3==4;");
         badBody(1, "let a = 1 @& 2;");
         badBody(1, "let a = true @| true;");
@@ -79,70 +61,70 @@ final class FaultTest {
     }
 
     private static void components() {
-        good(0, "component A { } component B { int a; byte b; fix c; bool d; ref e; }");
-        bad(1, "component A @int x; }");
-        bad(1, "component A { @x int; }");
-        bad(1, "component A { int x@, int y; }");
-        bad(1, "component A { int @int; }");
-        bad(1, "component A { int x; @; }");
-        bad(1, "component A { int x @}");
-        bad(2, "component @abcdefghijklm { }");
-        bad(2, "component A { int @abcdefghijklm; }");
-        good(0, "component abcdefghijkl { int abcdefghijkl; }");
-        bad(3, "component A { } component @A { }");
-        bad(3, "component A { int x; fix @x; }");
-        good(0, "component A { int A; } component B { int A; int B; }");
+        Check.good(0, "component A { } component B { int a; byte b; fix c; bool d; ref e; }");
+        Check.bad(1, "component A @int x; }");
+        Check.bad(1, "component A { @x int; }");
+        Check.bad(1, "component A { int x@, int y; }");
+        Check.bad(1, "component A { int @int; }");
+        Check.bad(1, "component A { int x; @; }");
+        Check.bad(1, "component A { int x @}");
+        Check.bad(2, "component @abcdefghijklm { }");
+        Check.bad(2, "component A { int @abcdefghijklm; }");
+        Check.good(0, "component abcdefghijkl { int abcdefghijkl; }");
+        Check.bad(3, "component A { } component @A { }");
+        Check.bad(3, "component A { int x; fix @x; }");
+        Check.good(0, "component A { int A; } component B { int A; int B; }");
     }
 
     private static void events() {
-        good(0, "event E(); event F(int a); event G(int a, byte b, fix c, ref d);");
-        bad(1, "event E @;");
-        bad(1, "event E(@a);");
-        bad(1, "event E(int a @int b);");
-        bad(1, "event E(int a, @);");
-        bad(1, "event E(int a) @event F();");
-        bad(2, "event E(int a, int b, int c, int d, @int e);");
-        bad(3, "event E(int a, fix @a);");
-        bad(3, "component A { } event @A();");
-        bad(3, "event A(); component @A { }");
+        Check.good(0, "event E(); event F(int a); event G(int a, byte b, fix c, ref d);");
+        Check.bad(1, "event E @;");
+        Check.bad(1, "event E(@a);");
+        Check.bad(1, "event E(int a @int b);");
+        Check.bad(1, "event E(int a, @);");
+        Check.bad(1, "event E(int a) @event F();");
+        Check.bad(2, "event E(int a, int b, int c, int d, @int e);");
+        Check.bad(3, "event E(int a, fix @a);");
+        Check.bad(3, "component A { } event @A();");
+        Check.bad(3, "event A(); component @A { }");
     }
 
     private static void prefabs() {
-        good(0, "prefab P { } component C { int i; byte b; fix f; bool t; ref r; } "
+        Check.good(0, "prefab P { } component C { int i; byte b; fix f; bool t; ref r; } "
             + "prefab Q { C(i = -5, b = 300, f = -1.5, t = true, r = none); }");
-        bad(1, "component C { int i; } prefab P { C(@); }");
-        bad(1, "component C { int i; } prefab P { C(i @5); }");
-        bad(1, "component C { int i; } prefab P { C(i = @C); }");
-        bad(1, "component C { int i; } prefab P { C(i = 5 @6); }");
-        bad(1, "component C { int i; } prefab P { C(i = 5,@); }");
-        bad(1, "component C { int i; } prefab P { C @}");
-        bad(1, "component C { bool t; } prefab P { C(t = -@true); }");
-        bad(1, "component C { int i; } prefab P { C(i = -@-5); }");
-        bad(1, "prefab P { @; }");
-        bad(2, "component C { int i; } prefab P { C(i = @2147483648); }");
-        bad(2, "component C { bool t; } prefab P { C(t = -@2147483648); }");
-        bad(2, "component C { fix f; } prefab P { C(f = @32768.0); }");
-        bad(2, "component C { fix f; } prefab P { C(f = @1.00000); }");
-        good(0, "component C { int i; fix f; } prefab P { C(i = 2147483647, f = 32767.9999); }");
-        bad(3, "component C { int i; } prefab P { C; @C; }");
-        bad(3, "component C { int i; } prefab P { C(i = 1, @i = 2); }");
-        bad(3, "prefab P { } prefab @P { }");
-        bad(4, "prefab P { @C; } component C { }");
-        bad(4, "component C { int i; } prefab P { C(@j = 1); }");
-        bad(5, "prefab P { @P; }");
-        bad(5, "event E(); prefab P { @E; }");
-        bad(5, "component C { int i; } prefab P { C(i = @1.0); }");
-        bad(5, "component C { int i; } prefab P { C(i = @-1.0); }");
-        bad(5, "component C { byte b; } prefab P { C(b = @true); }");
-        bad(5, "component C { fix f; } prefab P { C(f = @1); }");
-        bad(5, "component C { bool t; } prefab P { C(t = @1); }");
-        bad(5, "component C { ref r; } prefab P { C(r = @-1); }");
-        bad(5, "component C { ref r; } prefab P { C(r = @false); }");
+        Check.bad(1, "component C { int i; } prefab P { C(@); }");
+        Check.bad(1, "component C { int i; } prefab P { C(i @5); }");
+        Check.bad(1, "component C { int i; } prefab P { C(i = @C); }");
+        Check.bad(1, "component C { int i; } prefab P { C(i = 5 @6); }");
+        Check.bad(1, "component C { int i; } prefab P { C(i = 5,@); }");
+        Check.bad(1, "component C { int i; } prefab P { C @}");
+        Check.bad(1, "component C { bool t; } prefab P { C(t = -@true); }");
+        Check.bad(1, "component C { int i; } prefab P { C(i = -@-5); }");
+        Check.bad(1, "prefab P { @; }");
+        Check.bad(2, "component C { int i; } prefab P { C(i = @2147483648); }");
+        Check.bad(2, "component C { bool t; } prefab P { C(t = -@2147483648); }");
+        Check.bad(2, "component C { fix f; } prefab P { C(f = @32768.0); }");
+        Check.bad(2, "component C { fix f; } prefab P { C(f = @1.00000); }");
+        Check.good(0, "component C { int i; fix f; } prefab P { C(i = 2147483647, f = 32767.9999); }");
+        Check.bad(3, "component C { int i; } prefab P { C; @C; }");
+        Check.bad(3, "component C { int i; } prefab P { C(i = 1, @i = 2); }");
+        Check.bad(3, "prefab P { } prefab @P { }");
+        Check.bad(4, "prefab P { @C; } component C { }");
+        Check.bad(4, "component C { int i; } prefab P { C(@j = 1); }");
+        Check.bad(5, "prefab P { @P; }");
+        Check.bad(5, "event E(); prefab P { @E; }");
+        Check.bad(5, "component C { int i; } prefab P { C(i = @1.0); }");
+        Check.bad(5, "component C { int i; } prefab P { C(i = @-1.0); }");
+        Check.bad(5, "component C { byte b; } prefab P { C(b = @true); }");
+        Check.bad(5, "component C { fix f; } prefab P { C(f = @1); }");
+        Check.bad(5, "component C { bool t; } prefab P { C(t = @1); }");
+        Check.bad(5, "component C { ref r; } prefab P { C(r = @-1); }");
+        Check.bad(5, "component C { ref r; } prefab P { C(r = @false); }");
     }
 
     private static void heads() {
-        good(2, HEAD + "system S after Old each At, Go without Life, Tag writes Go, At reads Life { }");
-        good(2, HEAD + "system S after S each Tag { }");
+        Check.good(2, HEAD + "system S after Old each At, Go without Life, Tag writes Go, At reads Life { }");
+        Check.good(2, HEAD + "system S after S each Tag { }");
         badHead(1, "system S @writes At { }");
         badHead(1, "system S each At writes At @without Go { }");
         badHead(1, "system S each At, @{ }");
@@ -241,10 +223,10 @@ final class FaultTest {
         badBody(5, "emit Nil(1@) to (self) in (1);");
         badBody(5, "emit Hit(@1.0, self) to (self) in (1);");
         badBody(1, "emit Hit(1 @2) to (self) in (1);");
-        bad(5, HEAD + "system S each At writes At { for o in At @near (1.0) { } }");
-        bad(5, HEAD + "system S each Life reads At { for o in At @near (1.0) { } }");
-        bad(5, HEAD + "system S each Go reads Go { for o in Go @near (1.0) { } }");
-        bad(5, HEAD + "system S each Life reads Life { for o in Life @near (1.0) { } }");
+        Check.bad(5, HEAD + "system S each At writes At { for o in At @near (1.0) { } }");
+        Check.bad(5, HEAD + "system S each Life reads At { for o in At @near (1.0) { } }");
+        Check.bad(5, HEAD + "system S each Go reads Go { for o in Go @near (1.0) { } }");
+        Check.bad(5, HEAD + "system S each Life reads Life { for o in Life @near (1.0) { } }");
     }
 
     private static void names() {
@@ -320,8 +302,8 @@ final class FaultTest {
         badBody(2, "show (true + @99999999999);");
         badBody(2, "let a = 1; let abc = @2147483648 + true;");
         badBody(5, "show (has(@1 2));");
-        bad(2, HEAD + "system S each At { show (@1.12345); show (q); }");
-        bad(4, HEAD + "system S each At { show (@q); show (1.12345); }");
+        Check.bad(2, HEAD + "system S each At { show (@1.12345); show (q); }");
+        Check.bad(4, HEAD + "system S each At { show (@q); show (1.12345); }");
     }
 
     private static void answers() {

@@ -26,6 +26,13 @@ final class Sentence {
         return new Sentence(from, end < 0 ? "" : doc.substring(begin + from.length(), end).trim());
     }
 
+    /** A promise, of which the head of its method is quoted already. */
+    static Sentence promise(int number) {
+        Sentence s = section("## Promise " + number + ": ", number < 30 ? "## Promise " + (number + 1) + ": " : "## Not promised");
+        s.mark(s.words.substring(0, s.words.indexOf("`: ") + 2));
+        return s;
+    }
+
     private static String document() {
         try {
             return Files.readString(Path.of("../shared/DOC.md")).replaceAll("\\s+", " ");

@@ -231,7 +231,8 @@ final class InputTest {
                 Check.due("late look " + what, late.look(what), early.look(what));
             }
             Check.due("late sum", late.sum(), early.sum());
-            for (int k = 0; k < Math.min(256, early.look(8)); k++) {
+            int told = Math.min(256, early.look(8));
+            for (int k = 0; k < told; k++) {
                 Check.due("late shown " + k, late.shown(k), early.shown(k));
             }
         }

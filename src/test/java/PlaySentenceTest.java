@@ -163,8 +163,8 @@ final class PlaySentenceTest {
             Check.due("what they did", x.get(0, 0, 0), 93330001);
             Check.due("run again", x.look(12), 16);
             // All that a world has goes back: entities, generations, events, counts, the failure.
-            WorldEngine y = Check.world("component C { int i; } event N(); prefab P { C; } system S each C { if input(0) == 1 { drop (self); spawn P; emit N() to (none) in (5); } "
-                + "else { drop (none); fail; } }", 0, 1);
+            WorldEngine y = Check.world("component C { int i; } event N(); prefab P { C; } system S each C { "
+                + "if input(0) == 1 { drop (self); spawn P; emit N() to (none) in (5); } else { drop (none); fail; } }", 0, 1);
             y.make(0);
             steps(y, 3);
             Check.due("guessed", y.look(6), 3);
@@ -239,8 +239,8 @@ final class PlaySentenceTest {
             Check.no("none such", x.fall(-1));
         });
         s.holds("Whichever they are, however they are paced, nothing that is told hangs on them but what is said of them.", () -> {
-            String text = PLAY + " component D { ref q; } event N(); prefab Q { C; D; } system T each D { show (draw(1000)); spawn P(C.i = draw(9)); emit N() to (self) in (1); "
-                + "hear N { show (tick); } for o in C { drop (o); } }";
+            String text = PLAY + " component D { ref q; } event N(); prefab Q { C; D; } system T each D { "
+                + "show (draw(1000)); spawn P(C.i = draw(9)); emit N() to (self) in (1); hear N { show (tick); } for o in C { drop (o); } }";
             WorldEngine one = Check.world(text, 5, 2);
             for (int count = 2; count <= 9; count++) {
                 WorldEngine other = new WorldEngine(count);
@@ -260,7 +260,8 @@ final class PlaySentenceTest {
                         }
                     }
                 }
-                for (int k = 0; k < one.look(8); k++) {
+                int told = one.look(8);
+                for (int k = 0; k < told; k++) {
                     Check.due("shown " + k, other.shown(k), one.shown(k));
                 }
             }

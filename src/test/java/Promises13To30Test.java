@@ -52,8 +52,8 @@ final class Promises13To30Test {
         s.holds("NoSuchElementException: there is none such.", () -> {
             WorldEngine x = world(0, 1);
             x.change(0, 1, 0);
-            int[][] none = {{-1, 0, 0}, {1, 1, 0}, {2, 0, 0}, {255, 0, 0}, {256, 0, 0}, {257, 1, 0}, {MOST, 0, 0}, {LEAST, 0, 0}, {0, 1, 0}, {0, -1, 0}, {0, 2, 0}, {0, 16, 0},
-                {0, 32, 0}, {0, MOST, 0}, {0, LEAST, 0}, {0, 0, -1}, {0, 0, 2}, {0, 0, MOST}, {0, 0, LEAST}};
+            int[][] none = {{-1, 0, 0}, {1, 1, 0}, {2, 0, 0}, {255, 0, 0}, {256, 0, 0}, {257, 1, 0}, {MOST, 0, 0}, {LEAST, 0, 0},
+                {0, 1, 0}, {0, -1, 0}, {0, 2, 0}, {0, 16, 0}, {0, 32, 0}, {0, MOST, 0}, {0, LEAST, 0}, {0, 0, -1}, {0, 0, 2}, {0, 0, MOST}, {0, 0, LEAST}};
             for (int[] one : none) {
                 Check.missing("get", () -> x.get(one[0], one[1], one[2]));
             }
@@ -275,7 +275,8 @@ final class Promises13To30Test {
         s.holds("What 0: systems, 1 components, 2 NOW, 3 CONFIRMED, 4 entities, 5 PENDING events, 6 FAILS, 7 PASSED, 8 how many were told as SHOWN, "
             + "9 bytes of the OUT, 10 groups, 11 workers that are UP,", () -> {
             WorldEngine x = Check.world("component A { int a; } component B { } component F { } component G { } event N(); prefab P { A; } "
-                + "system S each A { show (1); if A.a == 1 { fail; } emit N() to (none) in (16); } system T after S each A { drop (none); drop (none); } system U each B { }", 0, 3);
+                + "system S each A { show (1); if A.a == 1 { fail; } emit N() to (none) in (16); } "
+                + "system T after S each A { drop (none); drop (none); } system U each B { }", 0, 3);
             for (int i = 0; i < 5; i++) {
                 x.make(0);
             }

@@ -297,7 +297,8 @@ final class Promises1To12Test {
         });
         s.holds("Components, their members and events go by NAMES: what the new text has not is gone (an event, too, whose members are not of the same "
             + "kinds in order);", () -> {
-            WorldEngine x = Check.world("component A { int a; int b; } component B { int c; } event E(int p, ref q); event F(byte p); event G(); prefab P { A(a = 1, b = 2); B(c = 3); } "
+            WorldEngine x = Check.world("component A { int a; int b; } component B { int c; } event E(int p, ref q); event F(byte p); event G(); "
+                + "prefab P { A(a = 1, b = 2); B(c = 3); } "
                 + "system S each A { emit E(7, self) to (self) in (3); emit F(8) to (self) in (4); emit G() to (none) in (5); emit E(9, none) to (self) in (6); }", 0, 1);
             x.make(0);
             Check.tick(x);
@@ -364,12 +365,14 @@ final class Promises1To12Test {
             turned("int", "int", new int[][] {{LEAST, LEAST}, {MOST, MOST}});
         });
         s.holds("to BYTE likewise, HELD;", () -> {
-            turned("fix", "byte", new int[][] {{98304, 1}, {-1, -1}, {127 * 65536 + 65535, 127}, {128 * 65536, 127}, {-128 * 65536, -128}, {-128 * 65536 - 1, -128}, {LEAST, -128}});
+            turned("fix", "byte", new int[][] {{98304, 1}, {-1, -1}, {127 * 65536 + 65535, 127}, {128 * 65536, 127},
+                {-128 * 65536, -128}, {-128 * 65536 - 1, -128}, {LEAST, -128}});
             turned("int", "byte", new int[][] {{127, 127}, {128, 127}, {MOST, 127}, {-128, -128}, {-129, -128}, {LEAST, -128}, {256, 127}});
             turned("bool", "byte", new int[][] {{0, 0}, {1, 1}});
         });
         s.holds("to FIX 65536 times an INT, BYTE or BOOL, HELD;", () -> {
-            turned("int", "fix", new int[][] {{1, 65536}, {-1, -65536}, {32767, 32767 * 65536}, {32768, MOST}, {65536, MOST}, {MOST, MOST}, {-32768, LEAST}, {-32769, LEAST}, {LEAST, LEAST}});
+            turned("int", "fix", new int[][] {{1, 65536}, {-1, -65536}, {32767, 32767 * 65536}, {32768, MOST}, {65536, MOST}, {MOST, MOST},
+                {-32768, LEAST}, {-32769, LEAST}, {LEAST, LEAST}});
             turned("byte", "fix", new int[][] {{127, 127 * 65536}, {-128, -128 * 65536}});
             turned("bool", "fix", new int[][] {{0, 0}, {1, 65536}});
             turned("fix", "fix", new int[][] {{LEAST, LEAST}, {5, 5}});

@@ -26,7 +26,9 @@ final class TapeTest {
         WorldEngine x = new WorldEngine(1);
         for (int i = 0; i < 300; i++) {
             Check.yes("feed " + i, x.feed(0x20202020, 0x20202020, 0x20202020, 0x20202020, 0x2020200a));
-            Check.due("tape", x.look(13), 20 * i + 20);
+            if (i % 10 == 9) {
+                Check.due("tape", x.look(13), 20 * i + 20);
+            }
         }
         Check.no("feed without room", x.feed(0, 0, 0, 0, 0));
         Check.due("tape", x.look(13), 6000);

@@ -644,7 +644,8 @@ final class TickSentenceTest {
             near("fix(32768)", 0, 0, MOST, -MOST, true);
             near("fix(32768)", 0, 0, 0, LEAST, false);
             // Worked out once: it draws once, and the draw within is the second one.
-            WorldEngine x = Check.world("component A { fix x; fix y; } prefab P { A; } system S each A reads A { if draw(1) == 0 { for o in A near (fix(draw(1))) { show (draw(1000)); } } }", 0, 1);
+            WorldEngine x = Check.world("component A { fix x; fix y; } prefab P { A; } "
+                + "system S each A reads A { if draw(1) == 0 { for o in A near (fix(draw(1))) { show (draw(1000)); } } }", 0, 1);
             x.make(0);
             x.make(0);
             x.make(0);
@@ -689,7 +690,8 @@ final class TickSentenceTest {
     }
 
     private static void near(String r, int x0, int y0, int x1, int y1, boolean met) {
-        WorldEngine x = Check.world("component A { fix x; fix y; int m; } prefab P { A; } system S each A reads A { if A.m == 1 { for o in A near (" + r + ") { show (o); } } }", 0, 1);
+        WorldEngine x = Check.world("component A { fix x; fix y; int m; } prefab P { A; } "
+            + "system S each A reads A { if A.m == 1 { for o in A near (" + r + ") { show (o); } } }", 0, 1);
         x.make(0);
         x.make(0);
         x.set(0, 0, 2, 1);
@@ -797,7 +799,8 @@ final class TickSentenceTest {
             Check.no("has", x.has(0, 0));
         });
         s.holds("emit with 256 PENDING (those that are DUE count);", () -> {
-            WorldEngine x = world("system S each C { if tick == 1 { emit N() to (self) in (1); emit N() to (self) in (1); emit N() to (self) in (2); } if tick == 2 { emit E(1, self) to (self) in (1); } }", 1);
+            WorldEngine x = world("system S each C { if tick == 1 { emit N() to (self) in (1); emit N() to (self) in (1); emit N() to (self) in (2); } "
+                + "if tick == 2 { emit E(1, self) to (self) in (1); } }", 1);
             for (int i = 0; i < 85; i++) {
                 x.make(0);
             }

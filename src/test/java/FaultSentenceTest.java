@@ -173,7 +173,10 @@ final class FaultSentenceTest {
             Check.bad(2, "component C { } " + many(16, "system S$ each C { } ") + "@system");
             Check.good(0, many(8, "event E$(); "));
             Check.bad(2, many(8, "event E$(); ") + "@event");
-            Check.good(16, many(16, "component C$ { } ") + many(8, "event E$(); ") + many(16, "prefab P$ { } ") + many(16, "system S$ each C1 { } "));
+            // All of them in one text, and as many LOCALS in its last system.
+            String all = many(16, "component C$ { } ") + many(8, "event E$(); ") + many(16, "prefab P$ { } ") + many(15, "system S$ each C1 { } ");
+            Check.good(16, all + "system S16 after S15 each C16 { " + many(12, "let a$ = 1; ") + "show (a1 + a12); spawn P16; hear E8 { } }");
+            Check.bad(3, all + "system S16 each C16 { let @S16 = 1; }");
         });
         String eight = many(8, "int m$; ");
         String all = many(6, "component C$ { " + eight + "} ");
@@ -190,6 +193,7 @@ final class FaultSentenceTest {
         });
         s.holds("a 5th of an event (at its KIND),", () -> {
             Check.good(0, "event E(int a, int b, int c, int d);");
+            Check.good(0, many(8, "event E$(int a, int b, int c, int d); "));
             Check.bad(2, "event E(int a, int b, int c, int d, @int e);");
             Check.bad(1, "event E(int a, int b, int c, int d, @);");
         });
@@ -224,6 +228,11 @@ final class FaultSentenceTest {
             bad(2, "if true { ".repeat(20) + "for o in At @{");
             bad(2, "if true { ".repeat(20) + "hear Hit @{");
             bad(2, "if true { ".repeat(19) + "if true { } else { if true @{");
+            bad(1, "if true { ".repeat(20) + "if true @;");
+            bad(1, "if true { ".repeat(20) + "hear Hit @;");
+            bad(1, "if true { ".repeat(20) + "show @1;");
+            good("hear Nil { ".repeat(19) + "hear Hit { let a = Hit.p; " + "}".repeat(20));
+            good("hear Hit { " + "hear Nil { ".repeat(19) + "let a = Hit.p; " + "}".repeat(20));
             good("show " + "(".repeat(20) + "1" + ")".repeat(20) + ";");
             bad(2, "show " + "(".repeat(20) + "@(1");
             good("show (" + "-".repeat(19) + "1); show (" + "!".repeat(19) + "true);");
@@ -433,6 +442,8 @@ final class FaultSentenceTest {
             bad(4, "for o in At { } show (@o);");
             bad(4, "for o in At near (@o.At.x) { }");
             bad(4, "for o in @o { }");
+            good("let a = 1; let b = 2; for o in At { let c = a; } show (a + b); a = 3; b = 4;");
+            good("for o in At { let c = 1; for u in At { let d = c; } c = 2; show (o); } for o in At { let c = 2; }");
             Check.bad(4, HEAD + "system S each At { let a = 1; } system T each At { show (@a); }");
         });
         s.holds("A STATEMENT's first NAME that is known wants to be a LOCAL with = behind it, of whose kind the E must be,", () -> {
@@ -655,11 +666,12 @@ final class FaultSentenceTest {
                 }
             }
             WorldEngine x = Check.world("component C { byte a; byte b; byte c; byte d; int e; fix f; bool g; ref h; } "
-                + "prefab P { C(a = 128, b = -129, c = 127, d = -128, e = -2147483647, f = -32767.9999, g = true, h = none); }", 0, 0);
+                + "component D { bool g; bool h; int i; fix j; } prefab P { D(h = false, g = false, i = 7, j = 0.5); "
+                + "C(a = 128, b = -129, c = 127, d = -128, e = -2147483647, f = -32767.9999, g = true, h = none); }", 0, 0);
             x.make(0);
-            int[] want = {127, -128, 127, -128, -2147483647, -(32767 * 65536 + 65529), 1, -1};
+            int[] want = {127, -128, 127, -128, -2147483647, -(32767 * 65536 + 65529), 1, -1, 0, 0, 7, 32768};
             for (int m = 0; m < want.length; m++) {
-                Check.due("member " + m, x.get(0, 0, m), want[m]);
+                Check.due("member " + m, m < 8 ? x.get(0, 0, m) : x.get(0, 1, m - 8), want[m]);
             }
         });
     }

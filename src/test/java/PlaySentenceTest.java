@@ -162,6 +162,7 @@ final class PlaySentenceTest {
             Check.due("all of them", x.input(0, 1, 9), 8);
             Check.due("what they did", x.get(0, 0, 0), 93330001);
             Check.due("run again", x.look(12), 16);
+            eachPlayersOwn();
             // All that a world has goes back: entities, generations, events, counts, the failure.
             WorldEngine y = Check.world("component C { int i; } event N(); prefab P { C; } system S each C { "
                 + "if input(0) == 1 { drop (self); spawn P; emit N() to (none) in (5); } else { drop (none); fail; } }", 0, 1);
@@ -178,6 +179,7 @@ final class PlaySentenceTest {
             Check.due("fails", y.look(6), 2);
             Check.due("pending", y.look(5), 1);
             Check.due("once dropped", y.entity(0), 256);
+            allGoesBack();
         });
         s.holds("CONFIRMED becomes one more as long as it is below NOW and of the next tick all players' inputs have come;", () -> {
             WorldEngine x = play();
@@ -205,6 +207,14 @@ final class PlaySentenceTest {
             x.seat(3, false);
             x.step();
             Check.due("a tick without players is known", x.look(3), 7);
+            WorldEngine y = play();
+            steps(y, 16);
+            for (int t = 16; t >= 2; t--) {
+                y.input(0, t, 0);
+            }
+            Check.due("none", y.look(3), 0);
+            y.input(0, 1, 0);
+            Check.due("sixteen at once", y.look(3), 16);
         });
         s.holds("what a tick has SHOWN is told as it is CONFIRMED.", () -> {
             WorldEngine x = play();
@@ -224,6 +234,74 @@ final class PlaySentenceTest {
             Check.due("four", x.look(8), 4);
             Check.due("fourth", x.shown(0), 1234);
         });
+    }
+
+    /** Each player's input is held against what that tick was run with for that player. */
+    private static void eachPlayersOwn() {
+        WorldEngine x = play();
+        for (int player = 1; player < 4; player++) {
+            x.seat(player, true);
+        }
+        for (int player = 0; player < 4; player++) {
+            x.input(player, 1, 5 + player);
+        }
+        steps(x, 4);
+        for (int player = 3; player >= 0; player--) {
+            Check.due("as guessed for player " + player, x.input(player, 3, 5 + player), 0);
+        }
+        for (int player = 3; player >= 0; player--) {
+            Check.due("not as guessed for player " + player, x.input(player, 4, 5 + (player + 1) % 4), 1);
+        }
+        // A player that was away for a tick: that one ran with 0, the next one with what came before.
+        WorldEngine y = play();
+        y.input(0, 1, 7);
+        steps(y, 1);
+        y.seat(0, false);
+        steps(y, 1);
+        y.seat(0, true);
+        steps(y, 1);
+        Check.due("what they did", y.get(0, 0, 0), 707);
+        Check.due("as guessed", y.input(0, 3, 7), 0);
+        y.seat(0, false);
+        steps(y, 1);
+        y.seat(0, true);
+        steps(y, 2);
+        Check.due("not as guessed", y.input(0, 5, 0), 2);
+        Check.due("not as guessed", y.input(0, 6, 1), 1);
+        Check.due("what they did", y.get(0, 0, 0), 707001);
+    }
+
+    /** A world of many entities, members and events, run with guesses and again, is as one that was run with the inputs at once. */
+    private static void allGoesBack() {
+        String text = "component A { int a; ref b; fix c; bool d; } component B { byte e; byte f; } event E(int p, ref q); event F(int r); prefab P { A; B; } "
+            + "system S each A, B writes A, B { A.a = A.a * 3 + input(0); A.c = A.c + fix(A.a); A.d = !A.d; B.e = B.e + input(0); B.f = tick; A.b = self; "
+            + "emit E(A.a, self) to (self) in (3); emit F(tick) to (A.b) in (4); hear E { show (E.p); } if A.a % 5 == 4 { take (self) B; drop (none); } "
+            + "if A.a % 7 == 6 { fail; } if A.a % 7 == 5 { spawn P(A.a = tick); } } ";
+        WorldEngine late = Check.world(text, 3, 1);
+        WorldEngine early = Check.world(text, 3, 1);
+        for (WorldEngine x : new WorldEngine[] {late, early}) {
+            for (int i = 0; i < 12; i++) {
+                x.make(0);
+                x.set(i, 0, 0, i);
+            }
+        }
+        for (int t = 1; t <= 9; t++) {
+            early.input(0, t, t % 4);
+            Check.due("step", early.step(), late.step());
+        }
+        for (int t = 9; t >= 1; t--) {
+            Check.yes("it comes", late.input(0, t, t % 4) >= 0);
+        }
+        Check.due("the world", late.sum(), early.sum());
+        for (int what = 2; what <= 8; what++) {
+            Check.due("look " + what, late.look(what), early.look(what));
+        }
+        Check.due("the failure", late.failure(1), early.failure(1));
+        int told = early.look(8);
+        Check.yes("some were told: " + told, told > 9);
+        for (int k = 0; k < told; k++) {
+            Check.due("shown " + k, late.shown(k), early.shown(k));
+        }
     }
 
     private static void workers(Sentence s) {
@@ -425,6 +503,23 @@ final class PlaySentenceTest {
             }
             loads(false, 0, 1, 88);
             loads(false, 1, 1, 70);
+            // As it is, into a world that was made anew.
+            WorldEngine x = saved();
+            int sum = x.sum();
+            Check.feed(x, SAVED);
+            x.text(9);
+            x.make(1);
+            Check.tick(x);
+            Check.due("load", x.load(), 0);
+            Check.due("the world", x.sum(), sum);
+            int[][] events = {{0, 3, 0, 258, -2, 1, -1}, {1, 17, -1, -1}};
+            for (int k = 0; k < 2; k++) {
+                for (int what = 0; what < events[k].length; what++) {
+                    Check.due("pending " + k + ", " + what, x.pending(k, what), events[k][what]);
+                }
+            }
+            Check.due("a member", x.get(0, 2, 2), -65536);
+            Check.due("entities", x.look(4), 2);
         });
         s.holds("TICK, FAILS and PASSED 0 .. 1000000000;", () -> {
             for (int at : new int[] {COUNTS, COUNTS + 8, COUNTS + 12}) {
@@ -468,6 +563,8 @@ final class PlaySentenceTest {
         });
         s.holds("no bits of components that there are not;", () -> {
             Check.yes("the second one has no members", loads(true, PLACES + 5, 2, 7).has(0, 1));
+            loads(false, PLACES + 5, 2, 8);
+            loads(false, PLACES + 5, 2, 9);
             loads(false, PLACES + 5, 2, 8 | 5);
             loads(false, PLACES + 5, 2, 0x8005);
             loads(false, PLACES + 5, 2, 0x0105);

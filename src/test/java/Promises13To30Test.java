@@ -519,6 +519,31 @@ final class Promises13To30Test {
                 Check.due("none came for " + t, x.input(0, t, t), 0);
             }
             Check.due("the next generation", x.make(3), 256);
+            // All of it is the one that was saved, whatever world is there now.
+            WorldEngine z = world(0, 2, 1);
+            z.set(1, 1, 0, 7);
+            Check.tick(z);
+            z.save();
+            int before = z.sum();
+            Check.feed(z, TEXT);
+            Check.due("text", z.text(12345), 3);
+            z.make(3);
+            z.make(2);
+            Check.tick(z);
+            Check.due("load", z.load(), 0);
+            Check.due("with its seed", z.sum(), before);
+            // For none of the ticks that may come.
+            WorldEngine later = Check.world("", 0, 0);
+            later.save();
+            later.bend(7, 60);
+            Check.due("load", later.load(), 0);
+            for (int t = 61; t <= 76; t++) {
+                Check.due("input", later.input(0, t, 1), 0);
+            }
+            Check.due("load", later.load(), 0);
+            for (int t = 61; t <= 76; t++) {
+                Check.due("none came for " + t, later.input(0, t, 1), 0);
+            }
             // What came before is no guess for what comes now.
             WorldEngine y = Check.world("component C { } prefab P { C; } system S each C { show (input(0)); }", 0, 1);
             y.make(0);

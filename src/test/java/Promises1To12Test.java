@@ -4,7 +4,7 @@ final class Promises1To12Test {
     private static final int MOST = 2147483647;
     // Prefab 0 has a C, 1 a D, 2 none.
     private static final String TEXT = "component C { int i; byte b; fix f; bool t; ref r; } component D { int j; ref q; } event E(int p); "
-        + "prefab P { C(i = 5); } prefab Q { D; } prefab Z { } system S each C { show (input(0)); if C.i == 9 { fail; } } system T each D { } ";
+        + "prefab P { C(i = 5); } prefab Q { D; } prefab Z { } system S each C { show (input(0)); if C.i == 9 { fail; } } system T each D { drop (none); emit E(1) to (none) in (16); } ";
 
     public static void main(String[] args) {
         newObject();
@@ -121,6 +121,16 @@ final class Promises1To12Test {
             x.feed(0x20203f20, 0x20202020, 0x20202020, 0x20202020, 0x20202020);
             Check.due("text", x.text(0), -1);
             Check.due("new bytes come behind what is left", x.fault(0), 2);
+            // Tokens end where the tape does, whatever stood behind it.
+            String[][] cuts = {{"component C { } system S each C { show (1.", "5"}, {"component C { } component D", "1 { }"},
+                {"component C { } system S each C { show (1 <", "= 1"}, {"component C { } system S each C { show (12", "34"}};
+            int[] places = {41, 27, 43, 42};
+            for (int i = 0; i < cuts.length; i++) {
+                Check.feed(x, cuts[i][0] + cuts[i][1]);
+                Check.yes("end", x.end(cuts[i][0].length()));
+                Check.due(cuts[i][0], x.text(0), -1);
+                Check.due(cuts[i][0] + " place", x.fault(0), places[i]);
+            }
         });
         s.holds("false if it has less, or n is below 0.", () -> {
             WorldEngine x = new WorldEngine(1);
@@ -142,9 +152,9 @@ final class Promises1To12Test {
         Sentence s = Sentence.promise(4);
         s.holds("Reads the TEXT: how many systems, and there is a new world with that SEED: TICK 0, no inputs, nothing told as SHOWN (players, workers, the "
             + "OUT stay);", () -> {
-            WorldEngine x = world(0, 1, 0);
+            WorldEngine x = world(0, 1, 0, 0);
             x.set(2, 0, 0, 9);
-            x.change(0, 1, 0);
+            x.change(0, 0, 0);
             x.seat(2, true);
             x.stand(4);
             x.fall(0);
@@ -161,6 +171,8 @@ final class Promises1To12Test {
             x.input(0, 4, 5);
             Check.due("told", x.look(8), 1);
             Check.due("failed", x.failure(2), 4);
+            Check.yes("passed over", x.look(7) > 0);
+            Check.yes("pending", x.look(5) > 0);
             Check.feed(x, TEXT);
             Check.due("text", x.text(-8), 2);
             looks(x, 2, 2, 0, 0, 0, 0, 0, 0, 0, out, 1, 1, 0, 0, 5);
@@ -180,6 +192,7 @@ final class Promises1To12Test {
                 }
                 Check.due("an empty text has no systems", x.look(0), 0);
             }
+            sameTextAgain();
         });
         s.holds("or minus the kind of its FAULT, and all is as before.", () -> {
             WorldEngine x = world(0, 1);
@@ -193,7 +206,7 @@ final class Promises1To12Test {
                 Check.feed(x, faults[kind - 1]);
                 Check.due("fault " + kind, x.text(99), -kind);
                 Check.due("sum", x.sum(), sum);
-                looks(x, 2, 2, 2, 1, 2, 0, 0, 0, 1, 0, 1, 1, 0, 0, 1);
+                looks(x, 2, 2, 2, 1, 2, 2, 0, 2, 1, 0, 1, 1, 0, 0, 1);
             }
             Check.due("the input came", x.input(0, 4, 6), -4);
             Check.due("the other is guessed", x.input(0, 2, 3), 0);
@@ -203,8 +216,45 @@ final class Promises1To12Test {
             Check.feed(y, "system");
             Check.due("a fault where there was no text", y.text(0), -1);
             Check.due("there is none still", y.step(), -3);
+            nothingIsLeftOfAFault();
         });
         s.close();
+    }
+
+    /** The same text again and again: nothing of the one before is known, counted or there. */
+    private static void sameTextAgain() {
+        WorldEngine x = new WorldEngine(1);
+        for (int turn = 0; turn < 5; turn++) {
+            Check.feed(x, TEXT);
+            Check.due("text", x.text(turn), 2);
+            looks(x, 2, 2, 0, 0, 0, 0, 0, 0, 0, 0, 1, 1, 0, 0, 1);
+            Check.due("three prefabs", x.make(3), -1);
+            Check.due("make", x.make(0), 0);
+            Check.due("make", x.make(1), 1);
+            Check.due("a prefab's value", x.get(0, 0, 0), 5);
+            Check.tick(x);
+            looks(x, 2, 2, 1, 1, 2, 1, 0, 1, 1);
+        }
+    }
+
+    /** A fault deep within a text leaves nothing open, visible or told for the next one. */
+    private static void nothingIsLeftOfAFault() {
+        WorldEngine x = new WorldEngine(1);
+        String head = "component C { int i; } event E(int p); system S each C { ";
+        for (int turn = 0; turn < 3; turn++) {
+            Check.feed(x, head + "let a = 1; for o in C { let b = 1; " + "hear E { ".repeat(13) + "let c = ((-(?");
+            Check.due("a fault deep within", x.text(0), -1);
+            StringBuilder locals = new StringBuilder();
+            for (int i = 1; i <= 12; i++) {
+                locals.append("let a").append(i).append(" = 1; ");
+            }
+            Check.feed(x, head + locals + "if true { ".repeat(20) + "} ".repeat(20) + "}");
+            Check.due("as much as may be", x.text(0), 1);
+            Check.feed(x, head + "show (a); }");
+            Check.due("no such LOCAL", x.text(0), -4);
+            Check.feed(x, head + "show (E.p); }");
+            Check.due("no such hear", x.text(0), -5);
+        }
     }
 
     private static void fault() {
@@ -322,6 +372,7 @@ final class Promises1To12Test {
             Check.no("what was gone is gone", x.has(0, 1));
             Check.due("a stays", x.get(0, 0, 0), 1);
             Check.due("b was gone", x.get(0, 0, 1), 0);
+            wholeWorldSwapped();
             // A NAME of another sort is none such.
             swapped(x, "prefab A { } event B(); component C { int a; }", 0);
             Check.no("A is no component any more", x.has(0, 0));
@@ -339,6 +390,40 @@ final class Promises1To12Test {
         swappedKinds(s);
         swappedRest(s);
         s.close();
+    }
+
+    /** A full world is carried from text to text, and has nothing that the last text has not. */
+    private static void wholeWorldSwapped() {
+        WorldEngine x = Check.world("component A { int a; int b; } component B { int c; } component G { } prefab P { A; B; G; }", 0, 0);
+        for (int i = 0; i < 256; i++) {
+            x.make(0);
+        }
+        for (int i = 0; i < 256; i += 51) {
+            x.set(i, 0, 0, 1000 + i);
+            x.set(i, 0, 1, 2000 + i);
+            x.set(i, 1, 0, 3000 + i);
+        }
+        swapped(x, "component A { int a; int b; } component B { int c; } component G { }", 0);
+        swapped(x, "component G { } component A { int b; int a; }", 0);
+        for (int i = 0; i < 256; i += 51) {
+            Check.yes("has", x.has(i, 0) && x.has(i, 1));
+            Check.due("a", x.get(i, 1, 1), 1000 + i);
+            Check.due("b", x.get(i, 1, 0), 2000 + i);
+        }
+        Check.due("saved", x.save(), 2 + 1 + 1 + 3 + 1 + 16 + 256 * (7 + 8) + 2);
+        Check.due("and loaded", x.load(), 0);
+        StringBuilder many = new StringBuilder();
+        for (int c = 0; c < 15; c++) {
+            many.append("component C").append(c).append(" { int a; int b; } ");
+        }
+        swapped(x, many + "component A { int a; }", 0);
+        Check.due("among sixteen", x.get(255, 15, 0), 1255);
+        Check.no("none of the new ones", x.has(255, 14));
+        swapped(x, "component A { int a; }", 0);
+        swapped(x, "component A { int a; }", 0);
+        Check.due("saved", x.save(), 2 + 1 + 2 + 1 + 16 + 256 * (7 + 4) + 2);
+        Check.due("and loaded", x.load(), 0);
+        Check.due("a", x.get(255, 0, 0), 1255);
     }
 
     /** A member of one kind with a value, behind a swap to another kind. */
@@ -562,6 +647,12 @@ final class Promises1To12Test {
             x.input(0, 1, 0);
             x.input(0, 3, 7);
             Check.due("the first bits count", x.shown(0), 7);
+            // What came for a tick did not come for one long behind it.
+            WorldEngine y = world(0);
+            for (int t = 1; t <= 140; t++) {
+                Check.due("input for " + t, y.input(0, t, 1), 0);
+                Check.due("step", y.step(), t);
+            }
         });
         s.close();
     }
@@ -589,6 +680,17 @@ final class Promises1To12Test {
             }
             x.step();
             Check.due("told", x.shown(0), 2);
+            // What was forgotten is no guess, either.
+            WorldEngine y = world(0);
+            y.input(0, 1, 3);
+            y.input(0, 2, 9);
+            y.step();
+            y.seat(0, false);
+            y.step();
+            y.seat(0, true);
+            y.step();
+            Check.due("guessed from tick 1", y.input(0, 3, 3), 0);
+            Check.due("tick 2 was without it", y.shown(1), 0);
             // What came up to NOW is kept.
             x.step();
             x.step();

@@ -176,6 +176,11 @@ final class TextSentenceTest {
             bad(1, "show (true ||@| true);");
             bad(1, "show (true @&| true);");
             bad(1, "let a @== 1;");
+            // At the text's end a sign is as long as it is elsewhere.
+            for (String sign : new String[] {"<=", ">=", "==", "!=", "&&", "||"}) {
+                Check.bad(1, ALL_KINDS + "system S each C { show (1 " + sign + "@");
+            }
+            Check.bad(1, ALL_KINDS + "system S each C { show (true @&");
         });
         s.holds("Blanks are 9, 10, 13, 32, and from # up to 10 or the end.", () -> {
             Check.good(0, "\t\n\r component\tC\n{\r}\t\n\r ");
@@ -398,6 +403,17 @@ final class TextSentenceTest {
             shows("1 - 2 >= 0", 0);
             shows("1 + 1 == 2", 1);
             shows("1 + 1 != 2", 0);
+            String[] signs = {"<", "<=", ">", ">=", "==", "!="};
+            int[][] table = {{1, 1, 0, 0, 0, 1}, {0, 1, 0, 1, 1, 0}, {0, 0, 1, 1, 0, 1}};
+            for (int i = 0; i < 6; i++) {
+                for (int left = 0; left < 3; left++) {
+                    shows(left + " " + signs[i] + " 1", table[left][i]);
+                    shows(left + ".0 " + signs[i] + " 1.0", table[left][i]);
+                    shows(left + " - 2147483647 " + signs[i] + " 1 - 2147483647", table[left][i]);
+                }
+            }
+            shows("-2147483647 < 2147483647", 1);
+            shows("-32767.0 > 32767.0", 0);
             bad(1, "show (1 < 2 @< 3);");
             bad(1, "show (true == true @== true);");
             bad(1, "show (1 != @);");

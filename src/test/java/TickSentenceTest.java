@@ -139,6 +139,13 @@ final class TickSentenceTest {
             Check.due("changed: a ref", x.get(0, 1, 1), -1);
             Check.due("an entity without components", x.make(3), 2);
             Check.no("has none", x.has(2, 0));
+            WorldEngine y = Check.world("component A { ref a; ref b; int c; } component B { ref d; } prefab P { A(c = 4); B; }", 0, 0);
+            y.make(0);
+            int[] refs = {-1, -1, 4};
+            for (int m = 0; m < 3; m++) {
+                Check.due("the text's first members: " + m, y.get(0, 0, m), refs[m]);
+            }
+            Check.due("another component's", y.get(0, 1, 0), -1);
         });
         s.holds("PENDING events, at most 256, in the order in which they came: each has its event, the TICK in which it is due, a target, members.", () -> {
             WorldEngine x = world("system S each C { if tick == 1 { emit E(C.i, none) to (self) in (16); } emit N() to (none) in (1 + 15 / tick); }", 1);
@@ -279,6 +286,15 @@ final class TickSentenceTest {
             Check.due("entity, which is gone by now", y.failure(1), 257);
             Check.due("why", y.failure(2), 1);
             Check.no("it is gone", y.has(257, 0));
+            // Rows that fail in the midst of a sum leave nothing for those behind them.
+            WorldEngine w = world("system S each C { show (1 + (2 + (3 + 4 / C.i))); }", 1);
+            for (int i = 0; i < 200; i++) {
+                w.make(0);
+            }
+            w.set(199, 0, 0, 2);
+            Check.tick(w);
+            Check.due("fails", w.look(6), 199);
+            Check.due("the last one's", w.shown(0), 8);
             // What was given is there ahead of the commands, whichever row stands first.
             WorldEngine z = world("system S each D { put (D.q) C.i = 1; } system T each C writes C { C.i = 2; }", 2, 1, 0);
             z.set(0, 1, 1, 1);
@@ -526,6 +542,14 @@ final class TickSentenceTest {
             ran("if false && true && 1 / 0 == 0 || false { }");
             ran("if true || false || 1 / 0 == 0 { }");
             ran("if (false || true) && 1 / 0 == 0 { }", 1);
+            WorldEngine x = Check.world("component C { } event E(int a, bool b, bool c, int d); prefab P { C; } "
+                + "system S each C { emit E(5, true || 1 / 0 == 0, false && 1 / 0 == 0, 6) to (self) in (1 + 1); }", 0, 1);
+            x.make(0);
+            Check.tick(x);
+            int[] want = {0, 3, 0, 5, 1, 0, 6};
+            for (int what = 0; what < want.length; what++) {
+                Check.due("what is beside it: " + what, x.pending(0, what), want[what]);
+            }
             told(ran("if false && draw(5) == 9 || true { show (draw(1000)); }"), drawn(0, 1000, 1, 0, 0, 0));
         });
         s.holds("tick is TICK; self the own NUMBER;", () -> {
@@ -643,6 +667,10 @@ final class TickSentenceTest {
             near("32767.9999", 0, 0, 32767 * 65536 + 65529, 0, true);
             near("fix(32768)", 0, 0, MOST, -MOST, true);
             near("fix(32768)", 0, 0, 0, LEAST, false);
+            near("1.0", 65536, 655360, 131072, 655360, true);
+            near("1.0", 65536, 655360, 131072, 65536, false);
+            near("1.0", 655360, 65536, 655360, 131073, false);
+            near("1.0", 655360, 65536, 655360, 0, true);
             // Worked out once: it draws once, and the draw within is the second one.
             WorldEngine x = Check.world("component A { fix x; fix y; } prefab P { A; } "
                 + "system S each A reads A { if draw(1) == 0 { for o in A near (fix(draw(1))) { show (draw(1000)); } } }", 0, 1);
@@ -668,6 +696,14 @@ final class TickSentenceTest {
             told(x, 2001, 2011);
             Check.tick(x);
             told(x, 2001, 2011, 3000, 3002, 3010, 3012, 1, 1);
+            // Members of an event that is not the first one.
+            WorldEngine z = Check.world("component C { } event A(int a, int b, int c, int d); event B(int a, int b, int c, int d); event D(int a, int b, int c); "
+                + "prefab P { C; } system S each C { if tick == 1 { emit D(5, 6, 7) to (self) in (1); emit B(1, 2, 3, 4) to (self) in (1); } "
+                + "hear B { show (B.a); show (B.d); } hear D { show (D.a); show (D.b); show (D.c); } }", 0, 1);
+            z.make(0);
+            Check.tick(z);
+            Check.tick(z);
+            told(z, 1, 4, 5, 6, 7);
             // One that is new at the same place is not the target.
             WorldEngine y = world("system S each C { if tick == 1 { emit N() to (self) in (2); } if tick == 2 { drop (self); spawn P; } hear N { show (1); } }", 1, 0);
             for (int t = 0; t < 3; t++) {
@@ -681,6 +717,11 @@ final class TickSentenceTest {
             Check.tick(x);
             Check.tick(x);
             Check.due("a ninth and tenth command", x.failure(2), 6);
+            WorldEngine deep = world("system S each C writes C { if tick == 1 { emit E(7, none) to (self) in (1); emit N() to (self) in (1); } "
+                + "hear N { ".repeat(19) + "hear E { C.i = C.i + E.p; " + "} ".repeat(20) + "}", 1, 0);
+            Check.tick(deep);
+            Check.tick(deep);
+            Check.due("twenty hears within one another", deep.get(0, 0, 0), 7);
             WorldEngine y = world("system S each C { if tick == 1 { emit E(1, none) to (self) in (1); emit E(2, none) to (self) in (1); emit N() to (self) in (1); } "
                 + "hear E { let a = E.p; hear E { show (10 * a + E.p); } hear N { show (30 + E.p); } } }", 1, 0);
             Check.tick(y);
@@ -690,17 +731,22 @@ final class TickSentenceTest {
     }
 
     private static void near(String r, int x0, int y0, int x1, int y1, boolean met) {
-        WorldEngine x = Check.world("component A { fix x; fix y; int m; } prefab P { A; } "
-            + "system S each A reads A { if A.m == 1 { for o in A near (" + r + ") { show (o); } } }", 0, 1);
-        x.make(0);
-        x.make(0);
-        x.set(0, 0, 2, 1);
-        x.set(0, 0, 0, x0);
-        x.set(0, 0, 1, y0);
-        x.set(1, 0, 0, x1);
-        x.set(1, 0, 1, y1);
-        Check.tick(x);
-        Check.due("near " + r + " of " + x1 + ", " + y1, x.look(8), met ? 1 : 0);
+        for (int own = 0; own < 3; own += 2) {
+            WorldEngine x = Check.world("component Z { int i; int k; } component A { fix x; fix y; int m; } prefab Q { Z; } prefab P { Z; A; } "
+                + "system S each A reads A { if A.m == 1 { for o in A near (" + r + ") { show (o); } } }", 0, 1);
+            x.make(1);
+            x.make(0);
+            x.make(1);
+            int other = 2 - own;
+            x.set(own, 1, 2, 1);
+            x.set(own, 1, 0, x0);
+            x.set(own, 1, 1, y0);
+            x.set(other, 1, 0, x1);
+            x.set(other, 1, 1, y1);
+            Check.tick(x);
+            Check.due("near " + r + " of " + x1 + ", " + y1, x.look(8), met ? 1 : 0);
+            Check.due("it is the other", met ? x.shown(0) : other, other);
+        }
     }
 
     private static void commands(Sentence s) {
@@ -714,6 +760,15 @@ final class TickSentenceTest {
             for (int m = 0; m < 4; m++) {
                 Check.due("member " + m, x.get(1, 0, m), want[m]);
             }
+            // Four may be told, at the least place, too.
+            WorldEngine y = world("system S each C { drop (self); spawn Both(C.i = 1, C.b = 2, D.j = 3, D.q = self); }", 1, 0);
+            Check.tick(y);
+            Check.due("its number", y.entity(0), 256);
+            Check.due("the first", y.get(256, 0, 0), 1);
+            Check.due("the second", y.get(256, 0, 4), 2);
+            Check.due("the third", y.get(256, 1, 0), 3);
+            Check.due("the fourth", y.get(256, 1, 1), 0);
+            Check.due("passed", y.look(7), 0);
         });
         s.holds("drop: it is gone.", () -> {
             WorldEngine x = world("system S each C { drop (C.r); }", 1, 0, 1);
@@ -730,6 +785,18 @@ final class TickSentenceTest {
             Check.due("int", x.get(0, 1, 0), 0);
             Check.due("ref", x.get(0, 1, 1), -1);
             Check.due("passed", x.look(7), 0);
+            WorldEngine y = world("system S each D { take (self) C; give (self) C; }", 1, 2, 2);
+            for (int entity = 0; entity < 2; entity++) {
+                y.set(entity, 0, 4, 3);
+                y.set(entity, 1, 0, 9);
+                y.set(entity, 1, 1, 1);
+            }
+            Check.tick(y);
+            for (int entity = 0; entity < 2; entity++) {
+                Check.due("a member of it", y.get(entity, 0, 4), 0);
+                Check.due("another component's stay", y.get(entity, 1, 0), 9);
+                Check.due("another component's stay", y.get(entity, 1, 1), 1);
+            }
         });
         s.holds("take: it has it no more.", () -> {
             WorldEngine x = world("system S each C { take (self) D; }", 1, 2);
@@ -797,6 +864,12 @@ final class TickSentenceTest {
             Check.due("passed", x.look(7), 4);
             Check.no("has", x.has(0, 1));
             Check.no("has", x.has(0, 0));
+            Check.due("a put alone", ran("put (self) D.j = 5;").look(7), 1);
+            Check.due("a take alone", ran("take (self) D;").look(7), 1);
+            WorldEngine y = world("system S each D { put (self) C.i = 5; put (self) D.j = 6; } system T each D { take (self) C; }", 2, 1);
+            Check.tick(y);
+            Check.due("passed", y.look(7), 2);
+            Check.due("what it has", y.get(0, 1, 0), 6);
         });
         s.holds("emit with 256 PENDING (those that are DUE count);", () -> {
             WorldEngine x = world("system S each C { if tick == 1 { emit N() to (self) in (1); emit N() to (self) in (1); emit N() to (self) in (2); } "

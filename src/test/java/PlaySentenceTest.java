@@ -277,6 +277,14 @@ final class PlaySentenceTest {
             + "system S each A, B writes A, B { A.a = A.a * 3 + input(0); A.c = A.c + fix(A.a); A.d = !A.d; B.e = B.e + input(0); B.f = tick; A.b = self; "
             + "emit E(A.a, self) to (self) in (3); emit F(tick) to (A.b) in (4); hear E { show (E.p); } if A.a % 5 == 4 { take (self) B; drop (none); } "
             + "if A.a % 7 == 6 { fail; } if A.a % 7 == 5 { spawn P(A.a = tick); } } ";
+        for (int order = 0; order < 3; order++) {
+            comesLate(text, order);
+        }
+    }
+
+    /** The inputs come the first one first, the last one first, or the ones in the midst last. */
+    private static void comesLate(String text, int order) {
+        int[][] orders = {{1, 2, 3, 4, 5, 6, 7, 8, 9}, {9, 8, 7, 6, 5, 4, 3, 2, 1}, {1, 2, 9, 8, 3, 7, 6, 5, 4}};
         WorldEngine late = Check.world(text, 3, 1);
         WorldEngine early = Check.world(text, 3, 1);
         for (WorldEngine x : new WorldEngine[] {late, early}) {
@@ -289,7 +297,7 @@ final class PlaySentenceTest {
             early.input(0, t, t % 4);
             Check.due("step", early.step(), late.step());
         }
-        for (int t = 9; t >= 1; t--) {
+        for (int t : orders[order]) {
             Check.yes("it comes", late.input(0, t, t % 4) >= 0);
         }
         Check.due("the world", late.sum(), early.sum());

@@ -367,6 +367,24 @@ final class Promises1To12Test {
             swapped(x, "component A { int a; } event E(ref q, int p); event G(int p);", 0);
             Check.no("B is gone", x.has(0, 1));
             Check.due("another order, another number", x.look(5), 0);
+            // An event that the last text has not, whichever text had it before.
+            String emits = "component A { } event N(); prefab P { A; } system S each A { emit N() to (self) in (16); }";
+            WorldEngine y = Check.world(emits, 0, 1);
+            y.make(0);
+            Check.tick(y);
+            swapped(y, emits, 1);
+            Check.due("pending", y.look(5), 1);
+            swapped(y, "component A { }", 0);
+            Check.due("gone", y.look(5), 0);
+            StringBuilder eight = new StringBuilder("component A { } ");
+            for (int e = 0; e < 8; e++) {
+                eight.append("event E").append(e).append("(); ");
+            }
+            WorldEngine z = Check.world(emits, 0, 1);
+            z.make(0);
+            Check.tick(z);
+            swapped(z, eight.toString(), 0);
+            Check.due("gone", z.look(5), 0);
             swapped(x, "component A { int a; int b; } component B { int c; }", 0);
             Check.yes("A stays", x.has(0, 0));
             Check.no("what was gone is gone", x.has(0, 1));
@@ -419,7 +437,8 @@ final class Promises1To12Test {
         swapped(x, many + "component A { int a; }", 0);
         Check.due("among sixteen", x.get(255, 15, 0), 1255);
         Check.no("none of the new ones", x.has(255, 14));
-        swapped(x, "component A { int a; }", 0);
+        swapped(x, "component A { int a; } component New { }", 0);
+        Check.no("a new one is had by none", x.has(255, 1));
         swapped(x, "component A { int a; }", 0);
         Check.due("saved", x.save(), 2 + 1 + 2 + 1 + 16 + 256 * (7 + 4) + 2);
         Check.due("and loaded", x.load(), 0);

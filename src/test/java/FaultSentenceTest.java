@@ -276,7 +276,21 @@ final class FaultSentenceTest {
         s.holds("of a component in a prefab, of a member in its ( );", () -> {
             String c = "component C { int a; int b; } component D { int a; } ";
             Check.bad(3, c + "prefab P { C; D; @C; }");
+            Check.bad(3, c + "prefab P { C; D; @D; }");
+            Check.bad(3, c + "prefab P { D(a = 1); C; @D(a = 1); }");
             Check.bad(3, c + "prefab P { C(a = 1, b = 2, @a = 3); }");
+            Check.bad(3, c + "prefab P { C(b = 1, a = 2, @b = 3); }");
+            String eight = "component C { int a; int b; int c; int d; int e; int f; int g; int h; } ";
+            for (char m = 'a'; m <= 'h'; m++) {
+                Check.bad(3, eight + "prefab P { C(" + m + " = 1, @" + m + " = 1); }");
+            }
+            StringBuilder all = new StringBuilder();
+            for (char name = 'A'; name <= 'P'; name++) {
+                all.append("component ").append(name).append(" { } ");
+            }
+            for (char name = 'A'; name <= 'P'; name++) {
+                Check.bad(3, all + "prefab X { " + name + "; @" + name + "; }");
+            }
             Check.good(0, c + "prefab P { C(a = 1); D(a = 1); } prefab Q { C(a = 1); D; }");
         });
         s.holds("in a system's each and without together, in its writes, in its reads, in its after;", () -> {

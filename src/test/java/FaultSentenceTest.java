@@ -425,6 +425,8 @@ final class FaultSentenceTest {
             bad(5, "emit Hit(1, self, 1.5@) to (self) in (1);");
             bad(5, "emit Hit(1, self, true, none, 2@) ?");
             bad(5, "emit Nil(true@) to (self) in (1);");
+            bad(5, "emit Nil(1" + ", true, 2.5, none".repeat(200) + "@) to (self) in (1);");
+            bad(5, "emit Hit(1, self" + ", 1".repeat(1000) + "@) to (self) in (1);");
             bad(5, "emit Hit(@true, self, 1) to (self) in (1);");
             bad(1, "emit Hit(1 @to (self) in (1);");
             bad(1, "emit Hit(1, self, 2 @; ");

@@ -432,7 +432,25 @@ final class PlaySentenceTest {
         });
         s.holds("how many components (a byte), of each how many members (a byte) and their KINDS (a byte each);", () -> bytes(2, 3, 2, 0, 1, 0, 3, 4, 3, 2));
         s.holds("how many events, of each likewise;", () -> bytes(11, 2, 4, 0, 1, 3, 4, 0));
-        s.holds("TICK, SEED, FAILS, PASSED (four bytes each);", () -> bytes(COUNTS, 0, 0, 0, 1, 1, 2, 3, 4, 0, 0, 0, 1, 0, 0, 0, 1));
+        s.holds("TICK, SEED, FAILS, PASSED (four bytes each);", () -> {
+            bytes(COUNTS, 0, 0, 0, 1, 1, 2, 3, 4, 0, 0, 0, 1, 0, 0, 0, 1);
+            WorldEngine x = Check.world("component C { int i; } prefab P { C; } system S each C "
+                + "{ drop (none); drop (none); drop (none); if C.i == 1 { fail; } }", -2, 1);
+            for (int i = 0; i < 3; i++) {
+                x.make(0);
+                x.set(i, 0, 0, i == 0 ? 0 : 1);
+            }
+            Check.tick(x);
+            Check.tick(x);
+            x.save();
+            int[] want = {0, 0, 0, 2, 255, 255, 255, 254, 0, 0, 0, 4, 0, 0, 0, 6};
+            for (int i = 0; i < want.length; i++) {
+                Check.due("byte " + i + " of the counts", x.byteOut(6 + i), want[i]);
+            }
+            Check.due("load", x.load(), 0);
+            Check.due("fails", x.look(6), 4);
+            Check.due("passed", x.look(7), 6);
+        });
         s.holds("for each PLACE its GENERATION (four) and 1 or 0 (a byte): whether an entity is there;", () -> {
             bytes(PLACES, 0, 0, 0, 0, 1);
             bytes(SECOND, 0, 0, 0, 1, 0);

@@ -57,6 +57,10 @@ final class Promises13To30Test {
             for (int[] one : none) {
                 Check.missing("get", () -> x.get(one[0], one[1], one[2]));
             }
+            x.change(1, 0, 1);
+            for (int member : new int[] {-1, -2, 2, 3, LEAST, MOST}) {
+                Check.missing("a neighbour's member", () -> x.get(0, 1, member));
+            }
             x.change(2, 0, 0);
             Check.missing("taken", () -> x.get(0, 0, 0));
             Check.missing("without a text", () -> new WorldEngine(1).get(0, 0, 0));

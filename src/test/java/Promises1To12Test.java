@@ -862,6 +862,15 @@ final class Promises1To12Test {
                 Check.due("none such", x.set(one[0], one[1], one[2], 3), -1);
             }
             Check.due("nothing has changed", x.sum(), sum);
+            // A member ahead of a component's first, or behind its last, is not the neighbour's.
+            WorldEngine y = world(0);
+            y.change(1, 0, 1);
+            int both = y.sum();
+            for (int member : new int[] {-1, -2, -5, 2, 3, LEAST, MOST}) {
+                Check.due("none such", y.set(0, 1, member, 3), -1);
+            }
+            Check.due("none such", y.set(0, 0, 5, 3), -1);
+            Check.due("nothing has changed", y.sum(), both);
         });
         s.holds("-10 not QUIET (ahead of all).", () -> {
             WorldEngine x = world(0);

@@ -235,6 +235,16 @@ final class TextSentenceTest {
         s.holds("prefab NAME { {NAME [( NAME = CONST {, NAME = CONST} )] ;} } |", () -> {
             String c = "component C { int a; int b; } component D { } ";
             Check.good(0, c + "prefab P { } prefab Q { C; } prefab R { C; D; } prefab S { C(a = 1); } prefab T { D; C(b = 1, a = 2); }");
+            StringBuilder sixteen = new StringBuilder();
+            for (int i = 0; i < 16; i++) {
+                sixteen.append("component C").append(i).append(" { int a; int b; } ");
+            }
+            for (int i = 0; i < 16; i++) {
+                WorldEngine x = Check.world(sixteen + "prefab P { C" + i + "(b = 7, a = 3); }", 0, 0);
+                x.make(0);
+                Check.due("the first member", x.get(0, i, 0), 3);
+                Check.due("the second member", x.get(0, i, 1), 7);
+            }
             Check.bad(1, c + "prefab P { C(@); }");
             Check.bad(1, c + "prefab P { C(a = 1, @); }");
             Check.bad(1, c + "prefab P { C(a = 1@; b = 2); }");
@@ -425,6 +435,9 @@ final class TextSentenceTest {
             shows("100 / 5 * 2", 40);
             shows("100 / 7 % 4", 2);
             shows("2 * 3 + 4 * 5", 26);
+            shows("1" + " + 2".repeat(900), 1801);
+            shows("1" + " - 2".repeat(900), -1799);
+            shows("7" + " * 3 % 10".repeat(400), 7);
             bad(1, "show (1 + @);");
             bad(1, "show (1 * @);");
             bad(1, "show (1 + @* 2);");

@@ -651,6 +651,19 @@ final class TickSentenceTest {
             WorldEngine y = world("system S each D { for o in C { for u in C { show (o); show (u); } } }", 1, 1, 0, 0);
             Check.tick(y);
             told(y, 1, 1, 1, 2, 2, 1, 2, 2);
+            // Its LOCAL is its own, whatever LOCALS and loops stand around it.
+            WorldEngine z = world("system S each D { let a = 7; let b = 8; for o in C { let c = 9; for u in C { if o != u { show (o); } } "
+                + "show (c); } show (a); show (b); }", 1, 1, 0, 0);
+            Check.tick(z);
+            told(z, 1, 9, 2, 9, 7, 8);
+            WorldEngine v = world("system S each D { let n = 0; while n < 2 { n = n + 1; for o in C { show (n); show (o); } } }", 1, 1, 0, 0);
+            Check.tick(v);
+            told(v, 1, 1, 1, 2, 2, 1, 2, 2);
+            WorldEngine w = world("system S each D { hear N { for o in C { hear N { for u in C { show (o); show (u); } } } } "
+                + "if tick == 1 { emit N() to (self) in (1); } }", 1, 1, 0, 0);
+            Check.tick(w);
+            Check.tick(w);
+            told(w, 1, 1, 1, 2, 2, 1, 2, 2);
         });
         s.holds("near(R), R worked out once: of these those whose first two members are both at most R (below 0: none) away from its own ones, the "
             + "distances reckoned exactly.", () -> {
@@ -671,6 +684,20 @@ final class TickSentenceTest {
             near("1.0", 65536, 655360, 131072, 65536, false);
             near("1.0", 655360, 65536, 655360, 131073, false);
             near("1.0", 655360, 65536, 655360, 0, true);
+            // Each near has its own R, whatever LOCALS and loops stand around it.
+            WorldEngine y = Check.world("component A { fix x; fix y; int m; } prefab P { A; } system S each A reads A { if A.m == 1 { "
+                + "let a = 0; let b = 0; while b < 1 { b = b + 1; for o in A near (5.0) { a = a + 1; for u in A near (1.0) { a = a + 10; "
+                + "for v in A near (9.0) { a = a + 100; } } } } for o in A near (1.0) { b = b + 1; } show (a); show (b); } }", 0, 1);
+            for (int i = 0; i < 4; i++) {
+                y.make(0);
+            }
+            y.set(0, 0, 2, 1);
+            y.set(1, 0, 0, 65536);
+            y.set(2, 0, 0, 5 * 65536);
+            y.set(3, 0, 1, 9 * 65536);
+            Check.tick(y);
+            Check.due("no failure", y.failure(2), -1);
+            told(y, 622, 2);
             // Worked out once: it draws once, and the draw within is the second one.
             WorldEngine x = Check.world("component A { fix x; fix y; } prefab P { A; } "
                 + "system S each A reads A { if draw(1) == 0 { for o in A near (fix(draw(1))) { show (draw(1000)); } } }", 0, 1);
